@@ -15,6 +15,9 @@ public final class HoleFills {
     private static final int STREETS = 6;
     private static final int KINDS = 6;
     private static final int FILLS = 3;
+    private static final int COLD_FILL = 1;
+    private static final int HOT_FILL = 2;
+    private static final int FIRST_SIZE = 5;
     private static final int MOST_HOLES = 8;
     private static final int MOST_SIZE = 99;
     private static final int MOST_TRAFFIC = 99;
@@ -24,6 +27,7 @@ public final class HoleFills {
     private static final int MOST_WEEK = 9999;
     private static final int MOST_ON = 104;
     private static final int MOST_TRIED_BUDGET = 999;
+    private static final int MOST_TOLD_BUDGET = 9999;
     private static final int MOST_BYTES = 120;
     private static final int SHEETS = 4;
     private static final int MOST_NUMBERS = 40;
@@ -40,7 +44,6 @@ public final class HoleFills {
     private final Town kept = new Town();
     private boolean isKept = false;
     private final Tape tape = new Tape();
-    private final TownText townText = new TownText(tape);
     private final Sheet[] sheets = new Sheet[SHEETS];
     private final int[] findings = new int[FINDINGS];
 
@@ -104,9 +107,9 @@ public final class HoleFills {
             case 7:
                 return here.price(hole, 0);
             case 8:
-                return Kinds.holds(here.kinds[hole], 1);
+                return Kinds.holds(here.kinds[hole], COLD_FILL);
             case 9:
-                return Kinds.holds(here.kinds[hole], 2);
+                return Kinds.holds(here.kinds[hole], HOT_FILL);
             default:
                 return here.rowOfHoles(what)[hole];
         }
@@ -319,7 +322,7 @@ public final class HoleFills {
             return found(BEYOND);
         }
         int best = 0;
-        int least = Integer.MAX_VALUE;
+        int least = MOST_HOLES * MOST_SIZE + 1;
         for (int set = 0; set < 1 << STREETS; set++) {
             Town town = asItIs();
             town.letGoAll(set);
@@ -363,15 +366,13 @@ public final class HoleFills {
     }
 
     public int wipe() {
-        int had = tape.length;
-        tape.length = 0;
-        return had;
+        return tape.clear();
     }
 
     public int text() {
         Town town = asItIs();
-        int items = townText.readInto(town);
-        tape.length = 0;
+        int items = TownText.readAll(tape, town);
+        tape.clear();
         if (items > 0) {
             here.become(town);
         }
@@ -642,9 +643,9 @@ public final class HoleFills {
             }
         }
 
-        /** The weeks that a fill (1 cold, 2 hot) holds. */
+        /** The weeks that a fill holds. */
         static int holds(int kind, int fill) {
-            int asHole = fill == 2 ? 40 : 3;
+            int asHole = fill == HOT_FILL ? 40 : 3;
             switch (kind) {
                 case BATH:
                 case DUCK:
@@ -785,15 +786,12 @@ public final class HoleFills {
             return holes >= MOST_HOLES;
         }
 
-        /** A new hole, where there is room: its number. */
+        /** A new hole, in a town that is not full: its number. */
         int addHole(int kind, int street) {
-            if (isFull()) {
-                return -1;
-            }
             int hole = holes;
             kinds[hole] = kind;
             streets[hole] = street;
-            sizes[hole] = 5;
+            sizes[hole] = FIRST_SIZE;
             fills[hole] = 0;
             ages[hole] = 0;
             rungs[hole] = 0;
@@ -873,7 +871,7 @@ public final class HoleFills {
             int price = price(hole, how);
             budget -= price;
             spent = Math.min(spent + price, MOST_SPENT);
-            fills[hole] = how == 0 ? 1 : 2;
+            fills[hole] = how == 0 ? COLD_FILL : HOT_FILL;
             ages[hole] = 0;
             rungs[hole] = 0;
         }
@@ -974,21 +972,8 @@ public final class HoleFills {
         }
     }
 
-    /** The bytes of a text that has not been read yet. */
+    /** The bytes of a text, and the token of them that is being looked at. */
     private static final class Tape {
-        final int[] bytes = new int[MOST_BYTES];
-        int length = 0;
-
-        void add(int b) {
-            if (length < MOST_BYTES) {
-                bytes[length] = b;
-                length++;
-            }
-        }
-    }
-
-    /** The tokens of the tape, one at a time. */
-    private static final class Tokens {
         static final int END = 0;
         static final int WORD = 1;
         static final int NUMBER = 2;
@@ -996,15 +981,26 @@ public final class HoleFills {
         static final int OTHER = 4;
         /** Above every number that a text may have. */
         static final int TOO_MUCH = 10000;
+        static final int FAULT = -1;
 
-        private final Tape tape;
-        int sort = END;
+        final int[] bytes = new int[MOST_BYTES];
+        int length = 0;
+        int token = END;
         int start = 0;
         int end = 0;
         int value = 0;
 
-        Tokens(Tape tape) {
-            this.tape = tape;
+        void add(int b) {
+            if (length < MOST_BYTES) {
+                bytes[length] = b;
+                length++;
+            }
+        }
+
+        int clear() {
+            int had = length;
+            length = 0;
+            return had;
         }
 
         void begin() {
@@ -1015,48 +1011,48 @@ public final class HoleFills {
         void advance() {
             start = endOfRun(end, ' ', ' ');
             end = start;
-            sort = END;
-            if (start < 0 || start >= tape.length || start >= MOST_BYTES) {
+            token = END;
+            if (start >= length) {
                 return;
             }
-            int b = tape.bytes[start];
+            int b = bytes[start];
             if (b >= 'a' && b <= 'z') {
-                sort = WORD;
+                token = WORD;
                 end = endOfRun(start, 'a', 'z');
             } else if (b >= '0' && b <= '9') {
-                sort = NUMBER;
+                token = NUMBER;
                 end = endOfRun(start, '0', '9');
-                value = valueOfNumber();
+                value = valueOfToken();
             } else {
-                sort = b == ';' ? SIGN : OTHER;
+                token = b == ';' ? SIGN : OTHER;
                 end = start + 1;
             }
         }
 
-        /** Where the bytes from a place on first aren't between two others. */
+        /** The first place from one on whose byte isn't between two others. */
         private int endOfRun(int from, int least, int most) {
             int at = from;
-            while (at < tape.length && tape.bytes[at] >= least && tape.bytes[at] <= most) {
+            while (at < length && bytes[at] >= least && bytes[at] <= most) {
                 at++;
             }
             return at;
         }
 
-        private int valueOfNumber() {
+        private int valueOfToken() {
             int number = 0;
             for (int at = start; at < end; at++) {
                 // Held, since a tape has room for more digits than an int.
-                number = Math.min(number * 10 + tape.bytes[at] - '0', TOO_MUCH);
+                number = Math.min(number * 10 + bytes[at] - '0', TOO_MUCH);
             }
             return number;
         }
 
-        boolean isWord(String word) {
-            if (sort != WORD || end - start != word.length()) {
+        boolean isAt(String word) {
+            if (token != WORD || end - start != word.length()) {
                 return false;
             }
             for (int i = 0; i < word.length(); i++) {
-                if (tape.bytes[start + i] != word.charAt(i)) {
+                if (bytes[start + i] != word.charAt(i)) {
                     return false;
                 }
             }
@@ -1065,108 +1061,100 @@ public final class HoleFills {
 
         /** Goes past a word, if it stands here: whether it did. */
         boolean pass(String word) {
-            boolean stands = isWord(word);
+            boolean stands = isAt(word);
             if (stands) {
                 advance();
             }
             return stands;
         }
+
+        /** Goes past a number of most at most: the number, or FAULT if none such stands here. */
+        int passNumber(int most) {
+            if (token != NUMBER || value > most) {
+                return FAULT;
+            }
+            int number = value;
+            advance();
+            return number;
+        }
     }
 
-    /** The text of a town. A reading that fails leaves the tokens at the fault. */
+    /** The text of a town. A reading that fails leaves the tape at the fault. */
     private static final class TownText {
-        private static final int FAULT = -1;
-
-        private final Tokens tokens;
-
-        TownText(Tape tape) {
-            tokens = new Tokens(tape);
-        }
-
         /** Reads all items into a town: how many, or -1 less the fault's place. */
-        int readInto(Town town) {
-            tokens.begin();
+        static int readAll(Tape tape, Town town) {
+            tape.begin();
             for (int items = 1; items <= MOST_BYTES; items++) {
-                if (!readItem(town)) {
+                if (!readItem(tape, town)) {
                     break;
                 }
-                if (tokens.sort == Tokens.END) {
+                if (tape.token == Tape.END) {
                     return items;
                 }
-                if (tokens.sort != Tokens.SIGN) {
+                if (tape.token != Tape.SIGN) {
                     break;
                 }
-                tokens.advance();
+                tape.advance();
             }
-            return -1 - tokens.start;
+            return -1 - tape.start;
         }
 
-        private boolean readItem(Town town) {
+        private static boolean readItem(Tape tape, Town town) {
             for (int k = 0; k < KINDS; k++) {
-                if (tokens.isWord(Kinds.nameOf(k))) {
-                    return readHole(town, k);
+                if (tape.isAt(Kinds.nameOf(k))) {
+                    return readHole(tape, town, k);
                 }
             }
-            if (tokens.isWord("street")) {
-                return readStreet(town);
+            if (tape.pass("street")) {
+                return readStreet(tape, town);
             }
-            if (tokens.isWord("budget")) {
-                town.budget = numberAfter("budget", 9999, FAULT);
-                return town.budget != FAULT;
+            if (tape.pass("budget")) {
+                town.budget = tape.passNumber(MOST_TOLD_BUDGET);
+                return town.budget != Tape.FAULT;
             }
-            town.men = numberAfter("men", MOST_MEN, FAULT);
-            return town.men != FAULT;
+            if (tape.pass("men")) {
+                town.men = tape.passNumber(MOST_MEN);
+                return town.men != Tape.FAULT;
+            }
+            return false;
         }
 
-        private boolean readHole(Town town, int kind) {
+        private static boolean readHole(Tape tape, Town town, int kind) {
             if (town.isFull()) {
                 return false;
             }
-            tokens.advance();
-            int street = numberAfter("in", STREETS - 1, 0);
-            if (street == FAULT) {
+            tape.advance();
+            int street = tape.pass("in") ? tape.passNumber(STREETS - 1) : 0;
+            if (street == Tape.FAULT) {
+                return false;
+            }
+            int size = tape.pass("size") ? tape.passNumber(MOST_SIZE) : FIRST_SIZE;
+            if (size == Tape.FAULT) {
                 return false;
             }
             int hole = town.addHole(kind, street);
-            int size = numberAfter("size", MOST_SIZE, 5);
-            if (size == FAULT || !town.has(hole)) {
-                return false;
-            }
             town.sizes[hole] = size;
-            if (tokens.pass("cold")) {
-                town.fills[hole] = 1;
-            } else if (tokens.pass("hot")) {
-                town.fills[hole] = 2;
+            if (tape.pass("cold")) {
+                town.fills[hole] = COLD_FILL;
+            } else if (tape.pass("hot")) {
+                town.fills[hole] = HOT_FILL;
             }
-            town.rungs[hole] = tokens.pass("rung") ? 1 : 0;
+            town.rungs[hole] = tape.pass("rung") ? 1 : 0;
             return true;
         }
 
-        private boolean readStreet(Town town) {
-            int street = numberAfter("street", STREETS - 1, FAULT);
+        private static boolean readStreet(Tape tape, Town town) {
+            int street = tape.passNumber(STREETS - 1);
             if (!isStreet(street)) {
                 return false;
             }
-            int traffic = numberAfter("traffic", MOST_TRAFFIC, town.traffic[street]);
-            if (traffic == FAULT) {
+            int traffic = tape.pass("traffic") ? tape.passNumber(MOST_TRAFFIC) : town.traffic[street];
+            if (traffic == Tape.FAULT) {
                 return false;
             }
             town.traffic[street] = traffic;
-            town.letGo[street] = tokens.pass("let") ? 1 : 0;
+            town.letGo[street] = tape.pass("let") ? 1 : 0;
             return true;
-        }
-
-        /** The number behind a word, or another if the word doesn't stand here; FAULT if it may not be. */
-        private int numberAfter(String word, int most, int otherwise) {
-            if (!tokens.pass(word)) {
-                return otherwise;
-            }
-            if (tokens.sort != Tokens.NUMBER || tokens.value > most) {
-                return FAULT;
-            }
-            int number = tokens.value;
-            tokens.advance();
-            return number;
         }
     }
 
