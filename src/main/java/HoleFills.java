@@ -196,8 +196,7 @@ public final class HoleFills {
         if (!here.has(hole) || !within(n, 0, MOST_ON) || !within(what, 0, 1)) {
             return found(BEYOND);
         }
-        Town town = asItIs();
-        town.goWeeks(n);
+        Town town = asItIs().goWeeks(n);
         return what == 0 ? town.sizes[hole] : town.fills[hole];
     }
 
@@ -205,15 +204,14 @@ public final class HoleFills {
         if (!within(n, 0, MOST_ON)) {
             return found(BEYOND);
         }
-        return asItIs().openSizeIn(n);
+        return asItIs().goWeeks(n).openSize();
     }
 
     public int cost(int n) {
         if (!within(n, 0, MOST_ON)) {
             return found(BEYOND);
         }
-        Town town = asItIs();
-        town.goWeeks(n);
+        Town town = asItIs().goWeeks(n);
         return town.spent - here.spent;
     }
 
@@ -241,10 +239,10 @@ public final class HoleFills {
         }
         Town town = asItIs();
         town.hot = 0;
-        int withCold = town.openSizeIn(n);
+        int withCold = town.goWeeks(n).openSize();
         town = asItIs();
         town.hot = 1;
-        return town.openSizeIn(n) < withCold ? 1 : 0;
+        return town.goWeeks(n).openSize() < withCold ? 1 : 0;
     }
 
     public int ring(int n) {
@@ -259,7 +257,7 @@ public final class HoleFills {
             }
             Town town = asItIs();
             town.rungs[h] = 1;
-            int left = town.openSizeIn(n);
+            int left = town.goWeeks(n).openSize();
             if (best < 0 || left < least) {
                 best = h;
                 least = left;
@@ -275,7 +273,7 @@ public final class HoleFills {
         for (int men = 0; men <= MOST_MEN; men++) {
             Town town = asItIs();
             town.men = men;
-            if (town.openSizeIn(n) <= v) {
+            if (town.goWeeks(n).openSize() <= v) {
                 return men;
             }
         }
@@ -290,7 +288,7 @@ public final class HoleFills {
         for (int budget = 0; budget <= MOST_TRIED_BUDGET; budget += step) {
             Town town = asItIs();
             town.budget = budget;
-            if (town.openSizeIn(n) <= v) {
+            if (town.goWeeks(n).openSize() <= v) {
                 return budget;
             }
             // With less than it lacked anywhere, all weeks would go just the same again.
@@ -326,7 +324,7 @@ public final class HoleFills {
         for (int set = 0; set < 1 << STREETS; set++) {
             Town town = asItIs();
             town.letGoAll(set);
-            int left = town.openSizeIn(n);
+            int left = town.goWeeks(n).openSize();
             if (left < least) {
                 best = set;
                 least = left;
@@ -339,8 +337,7 @@ public final class HoleFills {
         if (!within(n, 0, MOST_ON)) {
             return found(BEYOND);
         }
-        Town town = asItIs();
-        town.goWeeks(n);
+        Town town = asItIs().goWeeks(n);
         int worst = 0;
         for (int s = 1; s < STREETS; s++) {
             if (town.openSizeOf(s) > town.openSizeOf(worst)) {
@@ -908,10 +905,12 @@ public final class HoleFills {
             }
         }
 
-        void goWeeks(int n) {
+        /** Lets n weeks go: the town as it is then. */
+        Town goWeeks(int n) {
             for (int i = 0; i < n; i++) {
                 goWeek();
             }
+            return this;
         }
 
         /** The holes in a street, as a set. */
@@ -953,12 +952,6 @@ public final class HoleFills {
                 }
             }
             return sum;
-        }
-
-        /** Lets weeks go, and tells how bad the town is then. */
-        int openSizeIn(int n) {
-            goWeeks(n);
-            return openSize();
         }
 
         int openSizeOf(int street) {

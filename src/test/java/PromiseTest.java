@@ -669,6 +669,30 @@ public final class PromiseTest {
         x.town(2, 1);
         due("22: the budget of week 12 comes", x.budget(2, 0), 0);
         due("22: it comes too late", x.budget(1, 0), 5);
+
+        // Joints and baths that six men fill cold, over and over, just run out of money.
+        x = dearTown(new int[] {96, 91, 94, 80, 92, 54, 95, 94}, 26);
+        x.town(0, 998);
+        due("22: 998 is not enough", x.worse(20) > 552 ? 1 : 0, 1);
+        x.town(0, 999);
+        due("22: 999 is", x.worse(20), 552);
+        due("22: the most that is tried", x.budget(20, 552), 999);
+        x = dearTown(new int[] {94, 97, 98, 92, 99, 21, 99, 96}, 1);
+        x.town(0, 1000);
+        due("22: 1000 would be enough", x.worse(19), 229);
+        due("22: but is not tried", x.budget(19, 229), NONE);
+    }
+
+    /** A town in week 12 with much traffic and eight holes of sizes: baths, as a set, and joints. */
+    private static HoleFills dearTown(int[] sizes, int baths) {
+        HoleFills x = idleAt(12);
+        x.town(2, 6);
+        x.street(0, 0, 99);
+        for (int h = 0; h < sizes.length; h++) {
+            x.hole((baths >> h & 1) == 1 ? BATH : JOINT, 0);
+            x.set(h, 2, sizes[h]);
+        }
+        return x;
     }
 
     private static void kind() {
