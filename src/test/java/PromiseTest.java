@@ -572,6 +572,14 @@ public final class PromiseTest {
         due("19: cold is to be had", x.how(3), 0);
         x.town(0, 4);
         due("19: neither", x.how(3), 0);
+        // Hot, the money is gone with the first; cold, it is enough for both.
+        x.hole(HOLE, 0);
+        x.town(0, 60);
+        due("19: cold", x.how(2), 0);
+        x.town(0, 120);
+        due("19: cold", x.how(5), 0);
+        x.town(0, 121);
+        due("19: hot, 55 and 66", x.how(5), 1);
         due("19: n", x.how(0), BEYOND);
         due("19: n", x.how(105), BEYOND);
         due("19: n", x.how(104) >= 0 ? 1 : 0, 1);
@@ -860,6 +868,9 @@ public final class PromiseTest {
         due("28: in and a sign", told("hole in ;"), -9);
         due("28: street 6", told("hole in 6"), -9);
         due("28: in behind size", told("hole size 5 in 3"), -13);
+        due("28: size and the end", told("hole size"), -10);
+        due("28: size and the end", told("duck in 3 size "), -16);
+        due("28: size and a sign", told("hole size;hole"), -10);
         due("28: size 100", told("hole size 100"), -11);
         due("28: size 12345678901234567890", told("hole size 12345678901234567890"), -11);
         due("28: size 4294967296", told("hole size 4294967296"), -11);
@@ -981,6 +992,7 @@ public final class PromiseTest {
         due("31: two", x.write(1, 0, 0), 0);
         due("31: two", x.write(1, 1, 0), 4);
         due("31: two", x.write(1, 2, 0), 5);
+        due("31: onto itself", x.copy(0, 0, 0, 0, 5), 5);
         due("31: as they all were", x.copy(0, 0, 0, 1, 4), 4);
         int[] up = {1, 1, 2, 3, 4};
         for (int i = 0; i < 5; i++) {
@@ -996,6 +1008,9 @@ public final class PromiseTest {
         x.write(2, 0, Long.MIN_VALUE + 5);
         due("31: 64 bits", x.copy(2, 0, 3, 1, 1), 1);
         due("31: 64 bits", x.write(3, 1, 0), Long.MIN_VALUE + 5);
+        due("31: all of it", x.copy(2, 0, 3, 0, 2), 2);
+        due("31: all of it", x.write(3, 0, 0), Long.MIN_VALUE + 5);
+        due("31: it stays", x.write(2, 0, 0), Long.MIN_VALUE + 5);
     }
 
     private static void laysBookRead() {
