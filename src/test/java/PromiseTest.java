@@ -1,57 +1,5 @@
 /** Every promise of the document by its number, with answers worked out by hand. */
-public final class PromiseTest {
-    private static final int BEYOND = -1000000001;
-    private static final int FULL = -1000000002;
-    private static final int KIND = -1000000003;
-    private static final int NONE = -1000000004;
-    private static final int STATE = -1000000005;
-    private static final int MISSING = -1000000006;
-    private static final int SIZE = -1000000007;
-
-    private static final int HOLE = 0;
-    private static final int BATH = 1;
-    private static final int CRACK = 2;
-    private static final int JOINT = 3;
-    private static final int DUCK = 4;
-    private static final int SEAM = 5;
-
-    private static int asked = 0;
-    private static int wrong = 0;
-
-    private static void due(String what, long got, long want) {
-        asked++;
-        if (got != want) {
-            wrong++;
-            System.out.println(what + " answered " + got + ", due is " + want);
-        }
-    }
-
-    /** A town in a week of its first years, without men, holes or frost's traces. */
-    private static HoleFills idleAt(int week) {
-        HoleFills x = new HoleFills();
-        x.town(2, 0);
-        for (int left = week; left > 0; left -= 60) {
-            x.weeks(Math.min(60, left));
-        }
-        return x;
-    }
-
-    private static void feed(HoleFills x, String text) {
-        for (int i = 0; i < text.length(); i++) {
-            x.feed(text.charAt(i), 1);
-        }
-    }
-
-    private static int told(HoleFills x, String text) {
-        feed(x, text);
-        return x.text();
-    }
-
-    /** What a text answers on a new object. */
-    private static int told(String text) {
-        return told(new HoleFills(), text);
-    }
-
+public final class PromiseTest extends Check {
     public static void main(String[] args) {
         newObject();
         townAndStreets();
@@ -82,10 +30,7 @@ public final class PromiseTest {
         counts();
         status();
         lateWeeks();
-        System.out.println(asked + " answers asked, " + wrong + " wrong");
-        if (wrong != 0) {
-            System.exit(1);
-        }
+        end();
     }
 
     private static void newObject() {
