@@ -34,7 +34,15 @@ public final class PromiseTest extends Check {
     }
 
     private static void newObject() {
+        HoleFills other = new HoleFills();
         HoleFills x = new HoleFills();
+        told(other, "hole hot rung;street 0 traffic 7 let;budget 3;men 6");
+        other.weeks(60);
+        other.sheet(0, 8, 1);
+        other.image();
+        other.feed(0, 4);
+        other.of(9, 0);
+        due("1: no other's findings", x.status(-1), 0);
         int[] figures = {0, 500, 500, 1, 0, 0, 1, 0};
         for (int what = 0; what < figures.length; what++) {
             due("1: now(" + what + ")", x.now(what), figures[what]);

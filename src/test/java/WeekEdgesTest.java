@@ -32,6 +32,7 @@ public final class WeekEdgesTest extends Check {
         kindAtItsEdges();
         letAtItsEdges();
         worstAtItsEdges();
+        eachStreetIsWorst();
         imagesInNumber();
         spentIsHeld();
         end();
@@ -528,6 +529,8 @@ public final class WeekEdgesTest extends Check {
         due("23: all are of 99", x.kind(0, 52), HOLE);
         x.set(0, 2, 98);
         due("23: all are of 99", x.kind(0, 1), HOLE);
+        x.set(0, 2, 97);
+        due("23: a crack is of 98, the least that is not held", x.kind(0, 1), CRACK);
         x.set(0, 2, 5);
         due("23: a crack and a seam alike", x.kind(0, 1), CRACK);
         x = withHoles(45, JOINT);
@@ -568,6 +571,19 @@ public final class WeekEdgesTest extends Check {
         due("24: nobody to fill", x.let(26), 0);
         x.town(2, 6);
         due("24: enough for all", x.let(1), 0);
+
+        // Money for one fill, which breaks in the fourth week: only in street 4 it keeps a hole from growing.
+        x = withHoles(20, HOLE, HOLE, HOLE, HOLE, HOLE, HOLE, HOLE, HOLE);
+        for (int h = 0; h < 8; h++) {
+            x.set(h, 2, 99);
+        }
+        x.set(7, 1, 4);
+        x.set(7, 2, 98);
+        x.town(0, 14);
+        x.town(2, 1);
+        due("24: 792, with none let go", x.worse(4), 792);
+        due("24: 791, with street 0 let go", x.let(4), 1);
+        due("24: 693, whichever is filled", x.let(3), 0);
     }
 
     private static void worstAtItsEdges() {
@@ -592,6 +608,21 @@ public final class WeekEdgesTest extends Check {
             x.set(h, 2, 99);
         }
         due("25: five together", x.worst(104), 0);
+    }
+
+    private static void eachStreetIsWorst() {
+        for (int street = 0; street < 6; street++) {
+            HoleFills x = withHoles(20);
+            for (int s = 0; s < 6; s++) {
+                x.hole(HOLE, s);
+            }
+            due("25: all alike", x.worst(104), 0);
+            x.set(street, 2, 6);
+            due("25: this one", x.worst(0), street);
+            due("25: this one", x.worst(1), street);
+            x.set(street, 2, 4);
+            due("25: not this one", x.worst(0), street == 0 ? 1 : 0);
+        }
     }
 
     private static void imagesInNumber() {
