@@ -972,7 +972,7 @@ public final class HoleFills {
         static final int NUMBER = 2;
         static final int SIGN = 3;
         static final int OTHER = 4;
-        /** Above every number that a text may have. */
+        /** From here on, more than any number that a text may have. */
         static final int TOO_MUCH = 10000;
         static final int FAULT = -1;
 
@@ -1034,8 +1034,10 @@ public final class HoleFills {
         private int valueOfToken() {
             int number = 0;
             for (int at = start; at < end; at++) {
-                // Held, since a tape has room for more digits than an int.
-                number = Math.min(number * 10 + bytes[at] - '0', TOO_MUCH);
+                // Goes no further, since a tape has room for more digits than an int.
+                if (number < TOO_MUCH) {
+                    number = number * 10 + bytes[at] - '0';
+                }
             }
             return number;
         }
